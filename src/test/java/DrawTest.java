@@ -59,6 +59,12 @@ final class DrawTest {
         x.stop(0, 3);
         x.draw(0);
         due.is("stopped", x.look(0, 3, 3), 0);
+        PurseRing y = Rings.opened(Rings.ORDER, 2, 0, 0, 3);
+        y.row(0, 1);
+        y.pay(0, 0, 1);
+        y.draw(0);
+        due.is("one coin is lacking", y.look(0, 0, 3), 1);
+        due.is("late", y.look(0, 0, 10), 0);
     }
 
     private static void suretiesPutInBySeat() {
@@ -171,6 +177,12 @@ final class DrawTest {
         y.open(0);
         Rings.payAndDraw(y, 0, 2);
         due.is("only of those that are able", y.drawn(0, 0, 0), 2);
+        y.late(0, 1);
+        y.lot(0, 1);
+        y.undo(0);
+        Rings.payAndDraw(y, 0, 1, 2);
+        Rings.payAndDraw(y, 0, 1, 2);
+        due.is("told, but undone", y.drawn(0, 1, 0), 0);
     }
 
     private static void byBid() {
@@ -264,6 +276,10 @@ final class DrawTest {
         due.is("bid", x.drawn(0, 0, 2), 0);
         due.is("drew all", x.look(0, 1, 7), 10);
         due.is("the stopped one has nothing", x.look(0, 0, 8), 0);
+        PurseRing y = Rings.payers(Rings.BID, 2);
+        y.bid(0, 1, 6);
+        Rings.payAndDraw(y, 0, 1);
+        due.is("one other has it all", y.look(0, 0, 8), 6);
     }
 
     private static void claimComesFirst() {

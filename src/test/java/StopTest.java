@@ -125,6 +125,15 @@ final class StopTest {
         due.is("got back", x.look(0, 2, 9), 3);
         due.is("by a payer", x.replace(0, 2, 2), Rings.DONE);
         due.is("begins anew", x.look(0, 2, 9), 0);
+        due.is("had paid", x.look(0, 0, 6), 30);
+        due.is("was shared", x.look(0, 0, 8), 7);
+        x.stop(0, 0);
+        due.is("paid stays while stopped", x.look(0, 0, 6), 30);
+        x.replace(0, 0, 4);
+        due.is("has not paid", x.look(0, 0, 6), 0);
+        due.is("was not shared", x.look(0, 0, 8), 0);
+        due.is("did not draw in coins", x.look(0, 0, 7), 0);
+        due.is("did not get back", x.look(0, 0, 9), 0);
         x.close(0);
         due.is("closed", x.replace(0, 2, 2), Rings.STATE);
     }
@@ -195,6 +204,12 @@ final class StopTest {
         due.is("part", y.look(0, 3, 9), 4);
         due.is("part", y.look(0, 4, 9), 4);
         due.is("chest is empty", y.count(0, 3), 0);
+        PurseRing z = Rings.opened(Rings.ORDER, 10, 0, 12, 2, 2);
+        Rings.payAndDraw(z, 0);
+        Rings.payAndDraw(z, 0, 1);
+        z.close(0);
+        due.is("one alone has all", z.look(0, 0, 9), 22);
+        due.is("chest is empty", z.count(0, 3), 0);
     }
 
     private static void closePaysStopsInOrder() {

@@ -7,6 +7,7 @@ final class UndoTest {
         undoBringsAllBack();
         undoOfAClosing();
         image();
+        imageOfAClosedRing();
         imageBeingMade();
         tell();
         check();
@@ -102,6 +103,25 @@ final class UndoTest {
         x.late(0, 0);
         x.close(0);
         due.is("paid now", x.stops(0, 0, 4), 0);
+        PurseRing y = Rings.opened(Rings.BID, 10, 3, 5, 2, 3);
+        y.bid(0, 0, 4);
+        Rings.payAndDraw(y, 0, 1);
+        y.row(0, 2);
+        y.pay(0, 0, 0);
+        y.pay(0, 1, 0);
+        y.draw(0);
+        y.close(0);
+        due.is("shared", y.look(0, 1, 8), 4);
+        due.is("got back", y.look(0, 0, 9), 20);
+        y.undo(0);
+        due.is("shared in round 0", y.look(0, 1, 8), 4);
+        due.is("not got back", y.look(0, 0, 9), 0);
+        due.is("chest", y.count(0, 3), 5);
+        due.is("the first half is paid", y.pay(0, 1, 0), Rings.PAID);
+        due.is("the second is not", y.pay(0, 1, 1), Rings.DONE);
+        y.undo(0);
+        due.is("not shared", y.look(0, 1, 8), 0);
+        due.is("did not draw in coins", y.look(0, 0, 7), 0);
     }
 
     private static void image() {
@@ -132,6 +152,9 @@ final class UndoTest {
         }
         due.is("letter", x.letter(1, 3), 7);
         due.is("kept", x.drawn(1, 0, 1), x.drawn(0, 0, 1));
+        for (int what = 0; what <= 4; what++) {
+            due.is("stop " + what, x.stops(1, 0, what), x.stops(0, 0, what));
+        }
         due.is("stop", x.stops(1, 0, 0), 2);
         due.is("nothing to be undone", x.count(1, 12), 0);
         due.is("nothing to be undone", x.undo(1), Rings.NONE);
@@ -154,6 +177,26 @@ final class UndoTest {
             due.is("image " + i, x.image(1), i);
         }
         due.is("one more than 40", x.image(0), Rings.NONE);
+    }
+
+    private static void imageOfAClosedRing() {
+        PurseRing x = Rings.payers(Rings.ORDER, 2);
+        Rings.payAndDraw(x, 0, 1);
+        x.stop(0, 1);
+        x.draw(0);
+        x.stop(0, 0);
+        x.close(0);
+        x.image(0);
+        due.is("closed", x.count(1, 4), 2);
+        due.is("round", x.stops(1, 1, 1), 2);
+        due.is("owed", x.stops(1, 0, 2), 7);
+        due.is("owes", x.stops(1, 1, 3), 10);
+        due.is("unpaid", x.stops(1, 0, 4), 7);
+        x.undo(0);
+        x.stop(0, 0);
+        due.is("its own stops", x.stops(0, 1, 1), 1);
+        due.is("the image keeps its own", x.stops(1, 1, 1), 2);
+        due.is("nothing to be undone", x.undo(1), Rings.NONE);
     }
 
     private static void imageBeingMade() {

@@ -110,6 +110,7 @@ final class WishingTest {
         due.is("but nobody asks", x.yes(0, 0), Rings.SEAT);
         due.is("nobody asks, and it is stopped", x.yes(0, 2), Rings.SEAT);
         x.replace(0, 1, 2);
+        due.is("a new one has not said yes", x.count(0, 10), 1);
         x.need(0, 1);
         due.is("a new one may say yes", x.yes(0, 1), Rings.DONE);
     }
