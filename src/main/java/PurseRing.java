@@ -544,7 +544,7 @@ public final class PurseRing {
         final Book now;
         /** The book as each ROUND's draw() found it. */
         final Book[] ahead;
-        /** The first ROUND whose draw() this RING did itself: an image has those before it not. */
+        /** The first ROUND that this RING ended itself: what an image took over can't be undone. */
         int firstOwn;
 
         Ring(int kind, long payment, long fine, long chest) {
