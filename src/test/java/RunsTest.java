@@ -224,51 +224,10 @@ final class RunsTest {
 
     private long call(String op, long... a) {
         long want = model.call(op, a);
-        long got = answer(op, a);
+        long got = new Call(op, a).on(program);
         calls.add("  " + op + Arrays.toString(a) + " answered " + got
                 + (got == want ? "" : ", due is " + want));
         wrong |= got != want;
         return got;
-    }
-
-    private long answer(String op, long[] a) {
-        int[] i = new int[4];
-        for (int k = 0; k < a.length; k++) {
-            i[k] = (int) a[k];
-        }
-        PurseRing x = program;
-        switch (op) {
-            case "ring": return x.ring(i[0], i[1], i[2], i[3]);
-            case "seat": return x.seat(i[0], i[1], i[2], i[3]);
-            case "letter": return x.letter(i[0], i[1]);
-            case "answers": return x.answers(i[0], i[1], i[2]);
-            case "order": return x.order(i[0], i[1]);
-            case "lot": return x.lot(i[0], i[1]);
-            case "open": return x.open(i[0]);
-            case "deposit": return x.deposit(i[0], i[1], i[2]);
-            case "row": return x.row(i[0], i[1]);
-            case "tear": return x.tear(i[0]);
-            case "pay": return x.pay(i[0], i[1], i[2]);
-            case "came": return x.came(i[0], i[1]);
-            case "late": return x.late(i[0], i[1]);
-            case "bid": return x.bid(i[0], i[1], a[2]);
-            case "need": return x.need(i[0], i[1]);
-            case "yes": return x.yes(i[0], i[1]);
-            case "draw": return x.draw(i[0]);
-            case "drawn": return x.drawn(i[0], i[1], i[2]);
-            case "stop": return x.stop(i[0], i[1]);
-            case "replace": return x.replace(i[0], i[1], i[2]);
-            case "stops": return x.stops(i[0], i[1], i[2]);
-            case "close": return x.close(i[0]);
-            case "fair": return x.fair(i[0]);
-            case "undo": return x.undo(i[0]);
-            case "image": return x.image(i[0]);
-            case "tell": return x.tell(a[0]);
-            case "check": return x.check(i[0]);
-            case "look": return x.look(i[0], i[1], i[2]);
-            case "as": return x.as(i[0], i[1], i[2], i[3]);
-            case "count": return x.count(i[0], i[1]);
-            default: throw new IllegalStateException(op);
-        }
     }
 }
