@@ -28,6 +28,10 @@ final class Stand {
                     "look 0 0..6,59 0..11", "undo 0", "count 0 0..13"),
             all("tell 1", "check 0"), all("check 0"), all("ring 0 1 0 0", "image 0", "image 1"));
 
+    /** What a ring and its image must answer alike. */
+    private static final List<String> OF_A_RING = List.of("order", "answers", "open", "row", "tear", "pay", "late",
+            "yes", "stop", "stops", "draw", "drawn", "close", "look", "count");
+
     private final Due due;
     private final List<Call> made = new ArrayList<>();
     private List<Long> before;
@@ -117,25 +121,50 @@ final class Stand {
         return this;
     }
 
-    /** All that can be asked of ring 0 is answered by its image just so, but for what to undo. */
+    /** What is asked of ring 0 is answered by its image just so, but for what can be undone. */
     Stand imagesItself() {
-        PurseRing x = null;
-        int room = 0;
+        List<Call> asked = new ArrayList<>();
         for (Call c : SEEN) {
-            boolean ofARing = c.a[0] == 0 && !c.op.equals("as") && !(c.op.equals("count") && c.a[1] == 12);
-            if (ofARing) {
-                if (room < 2) {
-                    x = object();
-                    x.image(0);
-                    room = MOST_CALLS - made.size() - 1;
-                }
-                long[] a = c.a.clone();
-                a[0] = 1;
-                due.is("the image's " + told(c), new Call(c.op, a).on(x), c.on(x));
-                room -= 2;
+            boolean ofUndoing = c.op.equals("as") || c.op.equals("count") && c.a[1] == 12;
+            if (c.a[0] == 0 && !ofUndoing) {
+                asked.add(c);
+            }
+        }
+        int room = MOST_CALLS - made.size() - 1;
+        for (int from = 0; from < asked.size(); from += room) {
+            imagesItself(asked.subList(from, Math.min(asked.size(), from + room)));
+        }
+        for (List<Call> way : WAYS) {
+            if (OF_A_RING.containsAll(names(way))) {
+                imagesItself(way.subList(0, Math.min(way.size(), room)));
             }
         }
         return this;
+    }
+
+    private void imagesItself(List<Call> questions) {
+        List<Call> ofTheImage = new ArrayList<>();
+        for (Call c : questions) {
+            long[] a = c.a.clone();
+            a[0] = 1;
+            ofTheImage.add(new Call(c.op, a));
+        }
+        Call image = new Call("image", 0);
+        List<Long> first = new ArrayList<>();
+        List<Long> second = new ArrayList<>();
+        ask(image, questions, first);
+        ask(image, ofTheImage, second);
+        for (int i = 0; i < first.size(); i++) {
+            due.is("the image's " + told(questions.get(i)), second.get(i), first.get(i));
+        }
+    }
+
+    private static List<String> names(List<Call> calls) {
+        List<String> names = new ArrayList<>();
+        for (Call c : calls) {
+            names.add(c.op);
+        }
+        return names;
     }
 
     private String told(Call c) {

@@ -109,6 +109,8 @@ final class StopEdgesTest {
         Stand bids = open(2).then("bid 0 5 9", "stop 0 5", "replace 0 5 2", "row 0 60", "pay 0 0,1,2,5 0",
                 "pay 0 2 1", "draw 0");
         bids.answers("drawn 0 0 0 = 0", "drawn 0 0 2 = 0");
+        open(2).then("bid 0 5 9", "stop 0 5", "replace 0 5 2", "row 0 60", "pay 0 5 0", "draw 0").answers(
+                "drawn 0 0 0 = 5", "drawn 0 0 2 = 0");
         Stand asks = open(3).then("need 0 5", "yes 0 0,5");
         asks.then("stop 0 5").answers("count 0 9 = NONE", "count 0 10 = 1");
         asks.then("stop 0 0").answers("count 0 9 = 5", "count 0 10 = 1");

@@ -68,6 +68,9 @@ final class UndoEdgesTest {
                 calls[more.length + 1] = "undo 0";
                 ahead.sameAs(ahead.then(calls));
             }
+            Stand backed = ahead.then("stop 0 1,2");
+            backed.answers("look 0 1 9 = 13");
+            backed.sameAs(backed.then("draw 0", "replace 0 1 4", "deposit 0 1 3", "undo 0"));
             ahead.then("draw 0", "stop 0 5").run("undo 0 = 0", "count 0 8 = 0", "look 0 5 2 = 0",
                     "count 0 3 = 7");
         }
@@ -102,7 +105,13 @@ final class UndoEdgesTest {
                 "seat 0 3 1 9", "answers 0 1 0", "order 0 5,0");
         Stand[] stands = {made, made.then("open 0"), made.then("open 0", "row 0 6", "pay 0 1,2 0"),
             made.then("open 0", "draw 0", "late 0 0", "stop 0 5", "row 0 6", "pay 0 1 0"),
-            made.then("open 0", "4* draw 0", "stop 0 1", "close 0")};
+            made.then("open 0", "4* draw 0", "stop 0 1", "close 0"),
+            made.then("open 0", "deposit 0 1 40", "row 0 6", "pay 0 0,1,5 0", "draw 0", "stop 0 1,0,5",
+                    "replace 0 0 4"),
+            made.then("open 0", "deposit 0 1 40", "row 0 6", "pay 0 0,1,5 0", "draw 0", "stop 0 1,0,5", "3* draw 0",
+                    "close 0"),
+            payers(1, 4).then("lot 0 3", "lot 0 2", "lot 0 1"), payers(2, 4).then("bid 0 2,3 7"),
+            payers(3, 4).then("need 0 3", "yes 0 0,1,2"), payers(0, 60).then("60* draw 0")};
         for (Stand s : stands) {
             s.answers("image 0 = 1");
             s.imagesItself();
