@@ -16,6 +16,7 @@ import java.util.regex.Pattern;
 /** The public face, and those rules of ../shared/LANGUAGE.md that a look at the code can tell. */
 final class RulesTest {
     private static final Path SOURCE = Path.of("src/main/java/PurseRing.java");
+    private static final Path DOCUMENT = Path.of("../shared/DOC.md");
     private static final String[] FACE = {
         "int ring(int,int,int,int)", "int seat(int,int,int,int)", "int letter(int,int)",
         "int answers(int,int,int)", "int order(int,int)", "int lot(int,int)", "int open(int)",
@@ -38,6 +39,7 @@ final class RulesTest {
 
     public static void main(String[] args) throws IOException {
         face();
+        documentsFace();
         for (Class<?> c : PurseRing.class.getDeclaredClasses()) {
             nested(c);
         }
@@ -78,6 +80,21 @@ final class RulesTest {
                     f + " is final");
         }
         want(c.getDeclaredClasses().length <= MOST_CLASSES, "at most twelve classes");
+    }
+
+    /** Each line of the document's face stands in the code as it is, names of arguments too. */
+    private static void documentsFace() throws IOException {
+        String code = Files.readString(SOURCE);
+        Matcher block = Pattern.compile("(?s)```java\n(.*?)```").matcher(Files.readString(DOCUMENT));
+        want(block.find(), "the document has a face");
+        int lines = 0;
+        for (String line : block.group(1).split("\n")) {
+            boolean isMethod = line.endsWith(");");
+            String head = isMethod ? line.substring(0, line.length() - 1) + " {" : line;
+            want(code.contains(head + "\n"), "the code lacks " + line.trim());
+            lines += isMethod ? 1 : 0;
+        }
+        want(lines == FACE.length + 1, "the document's face has " + lines + " methods and constructors");
     }
 
     private static void nested(Class<?> c) {

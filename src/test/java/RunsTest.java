@@ -1,27 +1,38 @@
+import java.lang.reflect.Method;
+import java.lang.reflect.Modifier;
 import java.util.ArrayList;
 import java.util.Arrays;
+import java.util.Comparator;
 import java.util.List;
 import java.util.Random;
 
 /** Many runs of up to 512 calls, each call answered by PurseRing and by the plain model. */
 final class RunsTest {
     private static final int RUNS = 4000;
+    /** Every so many runs one takes any number for any argument. */
+    private static final int WILD = 5;
     private static final int CALLS = 512;
     private static final int[] SUMS = {1, 1, 2, 3, 7, 10, 10, 50, 9999999};
     private static final long[] ODD = {-1, 0, 1, 2, 3, 4, 5, 59, 60, 61, -2, Integer.MAX_VALUE,
         Integer.MIN_VALUE};
+
+    private static final long[] ODD_LONGS = {-1, 0, 60, 1L << 32, -(1L << 32), Long.MAX_VALUE, Long.MIN_VALUE};
+    /** By name, so that a seed gives the same run on every machine. */
+    private static final List<Method> FACE = face();
 
     private final Random random;
     private final PurseRing program = new PurseRing();
     private final PlainModel model = new PlainModel();
     private final List<String> calls = new ArrayList<>();
     private final int seats;
+    private final boolean wild;
     private long rings;
     private int changes;
     private boolean wrong;
 
     private RunsTest(long seed) {
         random = new Random(seed);
+        wild = seed % WILD == 0;
         seats = 1 + random.nextInt(random.nextInt(10) == 0 ? 60 : 6);
     }
 
@@ -46,7 +57,9 @@ final class RunsTest {
         make();
         while (changes < CALLS && !wrong) {
             changes++;
-            if (random.nextInt(4) == 0) {
+            if (wild && random.nextBoolean()) {
+                anything();
+            } else if (random.nextInt(4) == 0) {
                 see();
             } else {
                 change();
@@ -77,6 +90,31 @@ final class RunsTest {
         if (random.nextInt(10) > 0) {
             call("open", ring);
         }
+    }
+
+    /** Any call of the face, each argument ordinary or odd by turns of its own. */
+    private void anything() {
+        Method m = FACE.get(random.nextInt(FACE.size()));
+        long[] a = new long[m.getParameterCount()];
+        for (int i = 0; i < a.length; i++) {
+            boolean isLong = m.getParameterTypes()[i] == long.class;
+            a[i] = random.nextInt(3) > 0 ? random.nextInt(4) : isLong ? pick(ODD_LONGS) : pick(ODD);
+        }
+        long got = call(m.getName(), a);
+        if (m.getName().equals("ring") || m.getName().equals("image")) {
+            rings = Math.max(rings, got + 1);
+        }
+    }
+
+    private static List<Method> face() {
+        List<Method> face = new ArrayList<>();
+        for (Method m : PurseRing.class.getDeclaredMethods()) {
+            if (Modifier.isPublic(m.getModifiers())) {
+                face.add(m);
+            }
+        }
+        face.sort(Comparator.comparing(Method::getName));
+        return face;
     }
 
     private void change() {
