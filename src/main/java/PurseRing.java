@@ -309,7 +309,7 @@ public final class PurseRing {
         }
 
         boolean isNeither() {
-            return holds >= PAYER && !stopped && !drew;
+            return isGoing() && !drew;
         }
 
         boolean isAble() {
@@ -804,7 +804,10 @@ public final class PurseRing {
                 return status;
             }
             Place p = now.placeAt(seat);
-            if (p == null || !within(b, 0, purse())) {
+            if (p == null) {
+                return NO_SEAT;
+            }
+            if (!within(b, 0, purse())) {
                 return WRONG_SIZE;
             }
             p.offer = b;
